@@ -43,7 +43,7 @@ public final class LawRings {
     private final AllCases allCases = new AllCases(rules, hearing);
     private final Striking striking = new Striking(cases, trials, hearing);
     private final Asking asking = new Asking(cases, allCases);
-    private final Chain chain = new Chain();
+    private final Chain oneChain = new Chain();
     private final Chain otherChain = new Chain();
 
     public LawRings() {
@@ -139,19 +139,19 @@ public final class LawRings {
         if (!isQuestion(land, case0, kind)) return BAD_HERE;
         if (what < 0 && what != NONE && what != CHAIN_END) return BAD_HERE;
         hear(case0, kind);
-        chain.follow(hearing, land);
-        if (what == NONE) return chain.size;
-        if (what == CHAIN_END) return 10 * chain.back + chain.last;
-        return what < chain.size ? chain.lands[what] : TOO_FEW;
+        oneChain.follow(hearing, land);
+        if (what == NONE) return oneChain.size;
+        if (what == CHAIN_END) return 10 * oneChain.back + oneChain.last;
+        return what < oneChain.size ? oneChain.lands[what] : TOO_FEW;
     }
 
     public int parts(int a, int b, int case0, int kind) {
         if (!isQuestion(a, case0, kind) || !isOther(a, b)) return BAD;
         hear(case0, kind);
-        chain.follow(hearing, a);
+        oneChain.follow(hearing, a);
         otherChain.follow(hearing, b);
         for (int place = 1; place <= LANDS; place++) {
-            if (chain.step(place) != otherChain.step(place)) return place;
+            if (oneChain.step(place) != otherChain.step(place)) return place;
         }
         return 0;
     }
@@ -562,7 +562,7 @@ public final class LawRings {
             for (int step = 0; step < LANDS; step++) {
                 int told = treaties.tells(judge, kind, ties);
                 if (told != NONE) return told;
-                if (!sendsAway(judge) || lands.ways[judge] != AS_THE_OTHER) return byOwnWay(judge);
+                if (wayTaken(judge) != AS_THE_OTHER) return byBooks(judge);
                 waiting |= 1 << judge;
                 judge = to[judge];
                 if ((waiting >>> judge & 1) != 0) return ENDLESS;
@@ -570,17 +570,20 @@ public final class LawRings {
             return ENDLESS;
         }
 
-        private boolean sendsAway(int land) {
-            return end[land] == WHOLE && to[land] != land;
+        /** A judge whose BOOK names no other LAND's WHOLE law follows nothing, whatever the WAY. */
+        private int wayTaken(int judge) {
+            return end[judge] == WHOLE && to[judge] != judge ? lands.ways[judge] : NEVER;
         }
 
-        private int byOwnWay(int judge) {
-            int other = to[judge];
-            if (!sendsAway(judge) || lands.ways[judge] == NEVER) return other;
-            if (lands.ways[judge] == ONCE) return to[other];
-            // TO THE END ends where THE CHAIN does, INNER or back.
-            chain.follow(this, judge);
-            return chain.last;
+        private int byBooks(int judge) {
+            int taken = wayTaken(judge);
+            if (taken == ONCE) return to[to[judge]];
+            if (taken == TO_THE_END) {
+                // It ends where THE CHAIN does, INNER or back.
+                chain.follow(this, judge);
+                return chain.last;
+            }
+            return to[judge];
         }
 
         boolean allAlike() {

@@ -32,7 +32,7 @@ public final class PlainModelTest {
     private static int wrong = 0;
 
     public static void main(String[] args) {
-        int runs = 60;
+        int runs = 90;
         int[] seen = new int[CALLS.length];
         for (int seed = 0; seed < runs && wrong < 20; seed++) run(seed, seen);
         for (int i = 0; i < CALLS.length; i++) {
@@ -53,7 +53,10 @@ public final class PlainModelTest {
         Plain plain = new Plain();
         for (int n = 0; n < 500; n++) {
             int call = pick(random, n < 200 ? TELLING : LOOKING);
+            if (seed % 3 != 0 && isTooMuch(seed % 3, random, call, plain)) continue;
             int[] a = arguments(random, call, plain);
+            if (seed % 3 == RINGS) makeRings(random, call, a);
+            if (seed % 3 == ALIKE) makeAlike(random, call, a);
             long got = program(program, call, a);
             long want = plain.answer(call, a);
             seen[call]++;
@@ -62,6 +65,50 @@ public final class PlainModelTest {
                 + " answered " + got + ", due is " + want);
             return;
         }
+    }
+
+    // By chance alone rings are rare, and all lands hardly ever end alike: two runs of three are bent to it.
+    private static final int RINGS = 1, ALIKE = 2;
+
+    private static boolean isTooMuch(int bent, Random random, int call, Plain plain) {
+        switch (CALLS[call]) {
+            case "newCase": return plain.cases.size() >= 2;
+            case "rule": return plain.rules.size() >= (bent == RINGS ? 40 : 24);
+            case "treaty": return bent == ALIKE || plain.treaties.size() >= 1;
+            case "test": case "strike": case "untry": return bent == ALIKE && random.nextInt(5) != 0;
+            default: return false;
+        }
+    }
+
+    private static void makeRings(Random random, int call, int[] a) {
+        String name = CALLS[call];
+        if (name.equals("rule") && random.nextInt(4) != 0) {
+            a[1] = 0;
+            a[3] = 1 + random.nextInt(4);
+            a[4] = 0;
+        }
+        if (name.equals("way") && random.nextInt(3) != 0) a[1] = 3;
+        if (name.equals("treaty")) a[0] = 1;
+        if (name.equals("sort") && random.nextInt(3) != 0) a[2] = a[1];
+        if (random.nextInt(4) == 0) return;
+        if (name.equals("says") || name.equals("said") || name.equals("ends") || name.equals("chain")) a[2] = 0;
+        if (name.equals("parts")) a[3] = 0;
+        if (name.equals("endsIn") || name.equals("reached")) a[1] = 0;
+        if (name.equals("unlike") || name.equals("least")) a[2] = 0;
+    }
+
+    private static void makeAlike(Random random, int call, int[] a) {
+        String name = CALLS[call];
+        if (name.equals("rule")) {
+            a[1] = random.nextInt(8) / 7;
+            a[2] = random.nextInt(4) / 3;
+            a[3] = 1 + random.nextInt(2);
+            a[4] = 0;
+        }
+        if (name.equals("sort") && random.nextInt(3) != 0) a[2] = a[1];
+        if (name.equals("kindOf") && random.nextInt(3) != 0) a[1] = 0;
+        if (name.equals("unlike") || name.equals("least")) a[2] = 0;
+        if (name.equals("same")) a[0] = 0;
     }
 
     private static int pick(Random random, int[] weights) {

@@ -614,6 +614,11 @@ public final class PromisesTest {
         int like = x.rule(1, 0, INNER, 4, 0);
         x.test(like, 4, 0);
         due("19 of like ones the least number", x.least(1, 0, 0, 0), power5(4));
+        x = new LawRings();
+        x.rule(1, 0, INNER, 2, 0);
+        for (int t = 0; t < 6; t++) x.test(x.rule(0, 0, INNER, 2, 0), t, 1);
+        x.rule(0, 0, INNER, 3, 0);
+        due("19 all six ties", x.least(0, 1, 0, 0), 1 + 5 + 25 + 125 + 625 + 3125);
         due("19 BAD alike", x.least(2, 2, 0, 0), BAD);
         due("19 BAD", x.least(4, 0, 0, 0), BAD);
         due("19 BAD", x.least(0, 4, 0, 0), BAD);
@@ -637,6 +642,8 @@ public final class PromisesTest {
         x.way(1, AS_THE_OTHER);
         due("20 ENDLESS in the place of 1", x.reached(0, 0, 0), 1 | 4 | 8 | 16);
         due("20 the other kind", x.reached(0, 1, 0), 1);
+        for (int t = 0; t < 6; t++) x.test(x.rule(2, 0, INNER, 1, 0), t, 0);
+        due("20 by the empty case alone", x.reached(2, 0, 0), 1 | 4);
         due("20 BAD", x.reached(4, 0, 0), BAD);
         due("20 BAD", x.reached(0, 3, 0), BAD);
         due("20 BAD", x.reached(0, 0, 1000), BAD);
@@ -725,6 +732,10 @@ public final class PromisesTest {
         x = new LawRings();
         for (int i = 0; i < 40; i++) x.rule(3, 0, INNER, 1, 0);
         due("22 the first 30", x.dead(3, 0), (1 << 30) - 2);
+        for (int t = 0; t < 6; t++) x.test(x.rule(2, 0, INNER, 1, 0), t, 0);
+        x.rule(2, 0, INNER, 1, 0);
+        x.rule(2, 0, INNER, 1, 0);
+        due("22 first in the empty case alone", x.dead(2, 0), 1 << 7);
     }
 
     private static void promise23() {
