@@ -555,17 +555,17 @@ public final class LawRings {
             }
         }
 
-        /** HOW a judge ENDS. A judge who waits for another is left for that other, no LAND twice. */
+        /**
+         * HOW a judge ENDS. A judge who waits for another is left for that other. When as many
+         * have waited as there are LANDS, the next one asked has come before, and waits again.
+         */
         int outcome(int land) {
             int judge = land;
-            int waiting = 0;
-            for (int step = 0; step < LANDS; step++) {
+            for (int waiting = 0; waiting < LANDS; waiting++) {
                 int told = treaties.tells(judge, kind, ties);
                 if (told != NONE) return told;
                 if (wayTaken(judge) != AS_THE_OTHER) return byBooks(judge);
-                waiting |= 1 << judge;
                 judge = to[judge];
-                if ((waiting >>> judge & 1) != 0) return ENDLESS;
             }
             return ENDLESS;
         }

@@ -39,6 +39,7 @@ public final class LanguageTest {
         String text = Files.readString(Path.of(SOURCE));
         words(text);
         lengths(text);
+        objects(text);
         System.out.println(wrong == 0 ? "the face and the language are as due" : wrong + " things are not as due");
         if (wrong != 0) System.exit(1);
     }
@@ -112,6 +113,14 @@ public final class LanguageTest {
             int end = i;
             while (end < lines.length && !lines[end].equals(start.group(1) + "}")) end++;
             if (end - i >= LONGEST_METHOD) wrong("the method at line " + (i + 1) + " is too long");
+        }
+    }
+
+    /** All rows are made with the object: a line that makes one is a field's. */
+    private static void objects(String text) {
+        for (String line : text.split("\n")) {
+            if (!line.matches(".*\\bnew [A-Za-z]+[\\[(].*")) continue;
+            if (!line.matches("^( {4}private| {8}) ?final [^=]+ = new .*;$")) wrong("a call makes an object: " + line);
         }
     }
 }
