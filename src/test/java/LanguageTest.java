@@ -8,7 +8,9 @@ import java.nio.file.Path;
 import java.util.ArrayList;
 import java.util.Arrays;
 import java.util.List;
+import java.util.Map;
 import java.util.Set;
+import java.util.TreeMap;
 import java.util.TreeSet;
 import java.util.regex.Matcher;
 import java.util.regex.Pattern;
@@ -24,7 +26,7 @@ public final class LanguageTest {
     private static final String[] FORBIDDEN = {
         "throw", "throws", "try", "catch", "finally", "synchronized", "assert", "protected", "->", "::", "@",
         "hashCode", "toString", "System\\.(?!arraycopy)", "Object", "Exact", "var", "new Random" };
-    private static final int LONGEST_METHOD = 60;
+    private static final int LONGEST_METHOD = 60, DEEPEST_CALL = 8, MOST_FIELDS = 20;
 
     private static int wrong = 0;
 
@@ -39,6 +41,7 @@ public final class LanguageTest {
         String text = Files.readString(Path.of(SOURCE));
         words(text);
         lengths(text);
+        depths(text);
         objects(text);
         System.out.println(wrong == 0 ? "the face and the language are as due" : wrong + " things are not as due");
         if (wrong != 0) System.exit(1);
@@ -77,12 +80,13 @@ public final class LanguageTest {
 
     private static void nested() {
         List<Class<?>> classes = new ArrayList<>(Arrays.asList(LawRings.class.getDeclaredClasses()));
-        if (classes.size() > 12) wrong("there are " + classes.size() + " classes inside");
+        if (classes.size() > 11) wrong("there are " + classes.size() + " classes inside");
+        if (fieldsOf(LawRings.class) > MOST_FIELDS) wrong("LawRings has too many fields");
         Set<String> names = new TreeSet<>();
         for (String f : FACE) names.add(f.split(" ")[1]);
         for (Class<?> c : classes) {
             if (!Modifier.isStatic(c.getModifiers())) wrong(c.getName() + " is not static");
-            if (c.getDeclaredFields().length > 20) wrong(c.getName() + " has too many fields");
+            if (fieldsOf(c) > MOST_FIELDS) wrong(c.getName() + " has too many fields");
             for (Method m : c.getDeclaredMethods()) {
                 if (m.getParameterCount() > 7) wrong(m.getName() + " takes too much");
                 if (names.contains(m.getName())) wrong(c.getName() + " has a method named " + m.getName());
@@ -90,8 +94,18 @@ public final class LanguageTest {
         }
     }
 
+    private static int fieldsOf(Class<?> c) {
+        int fields = 0;
+        for (Field f : c.getDeclaredFields()) if (!Modifier.isStatic(f.getModifiers())) fields++;
+        return fields;
+    }
+
+    private static String withoutComments(String text) {
+        return text.replaceAll("(?s)/\\*.*?\\*/", "").replaceAll("//[^\n]*", "");
+    }
+
     private static void words(String text) {
-        String code = text.replaceAll("(?s)/\\*.*?\\*/", "").replaceAll("//[^\n]*", "");
+        String code = withoutComments(text);
         for (String word : FORBIDDEN) {
             String pattern = word.matches("[A-Za-z ]+") ? "\\b" + word + "\\b" : word;
             if (Pattern.compile(pattern).matcher(code).find()) wrong("the text has " + word);
@@ -104,16 +118,53 @@ public final class LanguageTest {
         for (char c : text.toCharArray()) if (c > 127) wrong("the text has the sign " + (int) c);
     }
 
-    /** A method starts at a line that is indented as a member is and ends in a brace, and ends at a brace as deep. */
     private static void lengths(String text) {
+        for (String[] method : methods(text)) {
+            if (method[1].split("\n").length >= LONGEST_METHOD) wrong("the method " + method[0] + " is too long");
+        }
+    }
+
+    /**
+     * Each method's name and its text. A method starts at a line that is indented as a member is and ends
+     * in a brace behind a parenthesis, and ends at a brace that is indented as much.
+     */
+    private static List<String[]> methods(String text) {
+        List<String[]> found = new ArrayList<>();
+        Pattern first = Pattern.compile("^( {4}| {8})[^ (][^(]*\\b(\\w+)\\(.*\\) \\{$");
         String[] lines = text.split("\n");
         for (int i = 0; i < lines.length; i++) {
-            Matcher start = Pattern.compile("^( {4}| {8})[^ ].*\\) \\{$").matcher(lines[i]);
-            if (!start.find()) continue;
-            int end = i;
-            while (end < lines.length && !lines[end].equals(start.group(1) + "}")) end++;
-            if (end - i >= LONGEST_METHOD) wrong("the method at line " + (i + 1) + " is too long");
+            Matcher start = first.matcher(lines[i]);
+            if (!start.find() || start.group(2).matches("if|for|while|switch")) continue;
+            StringBuilder body = new StringBuilder();
+            for (int k = i + 1; k < lines.length && !lines[k].equals(start.group(1) + "}"); k++) {
+                body.append(lines[k]).append('\n');
+            }
+            found.add(new String[] { start.group(2), body.toString() });
         }
+        return found;
+    }
+
+    /** No method calls itself, by others either, and none goes deeper than is allowed; one name counts as one method. */
+    private static void depths(String text) {
+        Map<String, Set<String>> calls = new TreeMap<>();
+        List<String[]> methods = methods(withoutComments(text));
+        for (String[] method : methods) calls.put(method[0], new TreeSet<>());
+        for (String[] method : methods) {
+            Matcher call = Pattern.compile("\\b(\\w+)\\(").matcher(method[1]);
+            while (call.find()) if (calls.containsKey(call.group(1))) calls.get(method[0]).add(call.group(1));
+        }
+        for (String f : FACE) {
+            String name = f.split(" ")[1];
+            if (!calls.containsKey(name)) wrong("the method " + name + " was not found in the text");
+            else if (depth(calls, name, 1) > DEEPEST_CALL) wrong("calls go too deep from " + name);
+        }
+    }
+
+    private static int depth(Map<String, Set<String>> calls, String name, int open) {
+        if (open > DEEPEST_CALL) return open;
+        int deepest = open;
+        for (String other : calls.get(name)) deepest = Math.max(deepest, depth(calls, other, open + 1));
+        return deepest;
     }
 
     /** All rows are made with the object: a line that makes one is a field's. */
